@@ -86,6 +86,19 @@ public final class PromiseTest {
         return g;
     }
 
+    /** Twelve places of one rank, all of side 0, from each a way to the next one; at the last one it is stuck. */
+    private static Roadgame line(int goal, int rank) {
+        Roadgame g = new Roadgame();
+        g.places(12);
+        g.goal(goal);
+        for (int p = 0; p < 11; p++) {
+            g.way(p, p + 1);
+            g.rank(p, rank);
+        }
+        g.rank(11, rank);
+        return g;
+    }
+
     private static Roadgame thirty() {
         Roadgame g = new Roadgame();
         for (int step = 0; step < 5; step++) {
@@ -495,6 +508,7 @@ public final class PromiseTest {
         check.same("again(0) past the lure", lure().again(0), 5);
         check.same("coming(0) with the lure", lure().coming(0), 7);
         check.same("again(1) with the lure", lure().again(1), 0);
+        check.same("again(0) of a line in the goal", line(4095, 2).again(0), 0);
         for (int wrong : new int[] {-1, 2, LOW, HIGH}) {
             check.illegal(s, "again(" + wrong + ")", () -> s.again(wrong));
         }
@@ -521,6 +535,13 @@ public final class PromiseTest {
         loops.rank(1, 1);
         check.same("ranked(0) of loops", loops.ranked(0), 5);
         check.same("ranked(1) of loops", loops.ranked(1), 2);
+        check.same("ranked(0) of a line of rank 0", line(0, 0).ranked(0), 0);
+        check.same("ranked(0) of a line of rank 2", line(0, 2).ranked(0), 0);
+        Roadgame up = line(0, 1);
+        up.give(11, 1);
+        check.same("ranked(0) of a line to where the other one is stuck", up.ranked(0), 4095);
+        up.way(11, 11);
+        check.same("ranked(0) of a line to rank 1", up.ranked(0), 0);
         for (int wrong : new int[] {-1, 2, LOW, HIGH}) {
             check.illegal(s, "ranked(" + wrong + ")", () -> s.ranked(wrong));
         }
@@ -543,6 +564,9 @@ public final class PromiseTest {
                 check.same("winner(" + game + ", " + p + ") stuck", s.winner(game, p), lost[p]);
             }
         }
+        check.same("winner(0, 1) in the lure", lure().winner(0, 1), 0);
+        check.same("winner(2, 1) in the lure", lure().winner(2, 1), 1);
+        check.same("winner(3, 1) in the lure", lure().winner(3, 1), 0);
         for (int wrong : new int[] {-1, 4, LOW, HIGH}) {
             check.outside(g, "winner(0, " + wrong + ")", () -> g.winner(0, wrong));
         }
@@ -569,6 +593,15 @@ public final class PromiseTest {
         line.goal(2048);
         check.same("rounds(0, 0) on a line", line.rounds(0, 0), 11);
         check.same("rounds(1, 0) on a line", line.rounds(1, 0), 11);
+        Roadgame fork = new Roadgame();
+        fork.places(3);
+        fork.give(0, 1);
+        fork.way(0, 1);
+        fork.way(0, 2);
+        fork.way(1, 2);
+        fork.goal(4);
+        check.same("rounds(0, 0) at a fork of the other one", fork.rounds(0, 0), 2);
+        check.same("rounds(1, 0) at a fork of its own", fork.rounds(1, 0), 1);
         for (int wrong : new int[] {-1, 4, LOW, HIGH}) {
             check.outside(g, "rounds(0, " + wrong + ")", () -> g.rounds(0, wrong));
         }
@@ -621,12 +654,7 @@ public final class PromiseTest {
         check.same("falls(1) of the lure", lure().falls(1), 3);
         check.same("falls(0) stuck", stuck().falls(0), 1);
         check.same("falls(1) stuck", stuck().falls(1), 1);
-        Roadgame line = new Roadgame();
-        line.places(12);
-        line.goal(4095);
-        for (int p = 0; p < 11; p++) {
-            line.way(p, p + 1);
-        }
+        Roadgame line = line(4095, 2);
         check.same("falls(0) of a line in the goal", line.falls(0), 12);
         check.same("falls(1) of a line in the goal", line.falls(1), 0);
         for (int wrong : new int[] {-1, 2, LOW, HIGH}) {
@@ -650,6 +678,7 @@ public final class PromiseTest {
         }
         Roadgame l = lure();
         check.same("choice(0, 0, 0) to the lure", l.choice(0, 0, 0), 1);
+        check.same("choice(0, 0, 2) in the goal", l.choice(0, 0, 2), -1);
         check.same("choice(2, 0, 0) past the lure", l.choice(2, 0, 0), 2);
         check.same("choice(2, 0, 2) in the goal", l.choice(2, 0, 2), 0);
         check.same("choice(2, 0, 1) in the lure", l.choice(2, 0, 1), -1);
@@ -792,6 +821,13 @@ public final class PromiseTest {
         check.same("withWay(3, 1, 1, 0)", s.withWay(3, 1, 1, 0), 7);
         check.same("withWay(2, 0, 2, 1) there already", s.withWay(2, 0, 2, 1), 6);
         check.same("withWay changes nothing", s.digest(), before);
+        Roadgame g = four();
+        g.rank(0, 1);
+        g.rank(3, 1);
+        check.same("withWay(3, 1, 3, 3)", g.withWay(3, 1, 3, 3), 15);
+        check.same("withWay(3, 0, 2, 2)", g.withWay(3, 0, 2, 2), 15);
+        g.rank(2, 0);
+        check.same("withWay(3, 0, 3, 3)", g.withWay(3, 0, 3, 3), 5);
         Roadgame full = new Roadgame();
         full.places(12);
         full.circle(1);
