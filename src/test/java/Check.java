@@ -6,6 +6,16 @@ final class Check {
 
     private int wrong;
     private int looked;
+    private String under = "";
+
+    /** What is told from now on is told under these words. */
+    void under(String words) {
+        under = words;
+    }
+
+    int looked() {
+        return looked;
+    }
 
     void same(String call, long got, long due) {
         looked++;
@@ -32,7 +42,7 @@ final class Check {
     /** The call must throw just this class, and leave all that can be asked as it was. */
     void refusedBy(Roadgame game, String call, Class<?> due, Call act) {
         looked++;
-        long before = game.digest();
+        String before = wholeOf(game);
         Class<?> thrown = null;
         try {
             act.run();
@@ -42,7 +52,7 @@ final class Check {
         if (thrown != due) {
             tell(call + " threw " + thrown + ", due is " + due);
         }
-        same(call + " leaves the digest", game.digest(), before);
+        same(call + " leaves all", wholeOf(game), before);
     }
 
     void outside(Roadgame game, String call, Call act) {
@@ -92,6 +102,14 @@ final class Check {
         return text.toString();
     }
 
+    static String wholeOf(Roadgame game) {
+        StringBuilder text = new StringBuilder(stateOf(game));
+        for (int what = 0; what <= 2; what++) {
+            text.append(game.house(what)).append(',');
+        }
+        return text.append(game.digest()).toString();
+    }
+
     void end(String name) {
         System.out.println(name + ": " + looked + " looked at, " + wrong + " not as due");
         if (wrong != 0) {
@@ -102,7 +120,7 @@ final class Check {
     private void tell(String text) {
         wrong++;
         if (wrong <= 40) {
-            System.out.println(text);
+            System.out.println(under.isEmpty() ? text : under + ": " + text);
         }
     }
 }

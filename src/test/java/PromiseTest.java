@@ -46,67 +46,6 @@ public final class PromiseTest {
         check.end("PromiseTest");
     }
 
-    /** Sides 0 1 0 1, goal 3: side 0 brings about that 3 comes from everywhere, side 1 from 1 and 3. */
-    private static Roadgame four() {
-        Roadgame g = new Roadgame();
-        g.places(4);
-        g.give(1, 1);
-        g.give(3, 1);
-        g.way(0, 1);
-        g.way(0, 2);
-        g.way(1, 0);
-        g.way(1, 3);
-        g.way(2, 3);
-        g.way(3, 2);
-        g.way(2, 0);
-        g.goal(8);
-        return g;
-    }
-
-    /** Place 0 of side 0 and place 1 of side 1 have no way; 2 of side 0 goes to both. */
-    private static Roadgame stuck() {
-        Roadgame g = new Roadgame();
-        g.places(3);
-        g.give(1, 1);
-        g.way(2, 0);
-        g.way(2, 1);
-        return g;
-    }
-
-    /** Goal 1 and 2, but from 1 it goes to 3 and stays there: only 2 comes again. All is of side 0. */
-    private static Roadgame lure() {
-        Roadgame g = new Roadgame();
-        g.places(4);
-        g.way(0, 1);
-        g.way(0, 2);
-        g.way(1, 3);
-        g.way(3, 3);
-        g.way(2, 0);
-        g.goal(6);
-        return g;
-    }
-
-    /** Twelve places of one rank, all of side 0, from each a way to the next one; at the last one it is stuck. */
-    private static Roadgame line(int goal, int rank) {
-        Roadgame g = new Roadgame();
-        g.places(12);
-        g.goal(goal);
-        for (int p = 0; p < 11; p++) {
-            g.way(p, p + 1);
-            g.rank(p, rank);
-        }
-        g.rank(11, rank);
-        return g;
-    }
-
-    private static Roadgame thirty() {
-        Roadgame g = new Roadgame();
-        for (int step = 0; step < 5; step++) {
-            g.circle(step);
-        }
-        return g;
-    }
-
     private static void newObject() {
         Roadgame g = new Roadgame();
         check.same("new told(0)", g.told(0), 6);
@@ -129,7 +68,7 @@ public final class PromiseTest {
     }
 
     private static void places() {
-        Roadgame g = four();
+        Roadgame g = Maps.four();
         g.rank(2, 0);
         g.rank(1, 1);
         g.stand(1);
@@ -225,7 +164,7 @@ public final class PromiseTest {
     }
 
     private static void wayAtThirty() {
-        Roadgame g = thirty();
+        Roadgame g = Maps.thirty();
         check.same("told(1) at thirty", g.told(1), 30);
         check.cannot(g, "way(0, 5) at thirty", () -> g.way(0, 5));
         check.act(g, "way(0, 4) at thirty", () -> g.way(0, 4), 0);
@@ -294,7 +233,7 @@ public final class PromiseTest {
     }
 
     private static void strew() {
-        Roadgame g = four();
+        Roadgame g = Maps.four();
         g.stand(1);
         g.go(3);
         g.rank(0, 1);
@@ -327,7 +266,7 @@ public final class PromiseTest {
     }
 
     private static void change() {
-        Roadgame g = four();
+        Roadgame g = Maps.four();
         check.act(g, "change()", g::change, 2);
         check.same("told(3)", g.told(3), 5);
         g.give(1, 1);
@@ -342,7 +281,7 @@ public final class PromiseTest {
     }
 
     private static void stand() {
-        Roadgame g = four();
+        Roadgame g = Maps.four();
         check.act(g, "stand(3)", () -> g.stand(3), 0);
         g.go(2);
         check.same("told(5) before", g.told(5), 1);
@@ -357,7 +296,7 @@ public final class PromiseTest {
     }
 
     private static void go() {
-        Roadgame g = four();
+        Roadgame g = Maps.four();
         check.act(g, "go(2)", () -> g.go(2), 1);
         check.act(g, "go(3)", () -> g.go(3), 2);
         check.same("told(4)", g.told(4), 3);
@@ -372,7 +311,7 @@ public final class PromiseTest {
     }
 
     private static void follow() {
-        Roadgame g = four();
+        Roadgame g = Maps.four();
         check.act(g, "follow(0) at 0", () -> g.follow(0), 2);
         check.same("told(4)", g.told(4), 2);
         check.same("told(5)", g.told(5), 1);
@@ -396,7 +335,7 @@ public final class PromiseTest {
     }
 
     private static void told() {
-        Roadgame g = four();
+        Roadgame g = Maps.four();
         g.lose(3, 2);
         g.stand(2);
         g.go(3);
@@ -410,7 +349,7 @@ public final class PromiseTest {
     }
 
     private static void ofPlace() {
-        Roadgame g = four();
+        Roadgame g = Maps.four();
         g.rank(3, 1);
         int[] due = {1, 1, 1, 4, 6};
         for (int what = 0; what <= 4; what++) {
@@ -428,7 +367,7 @@ public final class PromiseTest {
     }
 
     private static void isWay() {
-        Roadgame g = four();
+        Roadgame g = Maps.four();
         check.holds("isWay(0, 1)", g.isWay(0, 1));
         check.holds("isWay(3, 2)", g.isWay(3, 2));
         check.fails("isWay(3, 1)", g.isWay(3, 1));
@@ -455,7 +394,7 @@ public final class PromiseTest {
     }
 
     private static void ahead() {
-        Roadgame g = four();
+        Roadgame g = Maps.four();
         check.same("ahead(8, 0)", g.ahead(8, 0), 4);
         check.same("ahead(8, 1)", g.ahead(8, 1), 2);
         check.same("ahead(6, 0)", g.ahead(6, 0), 9);
@@ -463,7 +402,7 @@ public final class PromiseTest {
         check.same("ahead(9, 0)", g.ahead(9, 0), 6);
         check.same("ahead(0, 0)", g.ahead(0, 0), 0);
         check.same("ahead(15, 1)", g.ahead(15, 1), 15);
-        Roadgame s = stuck();
+        Roadgame s = Maps.stuck();
         check.same("ahead(0, 0) stuck", s.ahead(0, 0), 2);
         check.same("ahead(0, 1) stuck", s.ahead(0, 1), 1);
         check.same("ahead(7, 0) stuck", s.ahead(7, 0), 6);
@@ -478,12 +417,12 @@ public final class PromiseTest {
     }
 
     private static void comingAndKeeping() {
-        Roadgame g = four();
+        Roadgame g = Maps.four();
         check.same("coming(0)", g.coming(0), 15);
         check.same("keeping(1)", g.keeping(1), 0);
         check.same("coming(1)", g.coming(1), 10);
         check.same("keeping(0)", g.keeping(0), 5);
-        Roadgame s = stuck();
+        Roadgame s = Maps.stuck();
         check.same("coming(0) stuck", s.coming(0), 6);
         check.same("keeping(1) stuck", s.keeping(1), 1);
         check.same("coming(1) stuck", s.coming(1), 1);
@@ -498,24 +437,24 @@ public final class PromiseTest {
     }
 
     private static void again() {
-        Roadgame g = four();
+        Roadgame g = Maps.four();
         check.same("again(0)", g.again(0), 15);
         check.same("again(1)", g.again(1), 0);
-        Roadgame s = stuck();
+        Roadgame s = Maps.stuck();
         s.goal(1);
         check.same("again(0), stuck in the goal", s.again(0), 6);
         check.same("again(1), the other one stuck", s.again(1), 1);
-        check.same("again(0) past the lure", lure().again(0), 5);
-        check.same("coming(0) with the lure", lure().coming(0), 7);
-        check.same("again(1) with the lure", lure().again(1), 0);
-        check.same("again(0) of a line in the goal", line(4095, 2).again(0), 0);
+        check.same("again(0) past the lure", Maps.lure().again(0), 5);
+        check.same("coming(0) with the lure", Maps.lure().coming(0), 7);
+        check.same("again(1) with the lure", Maps.lure().again(1), 0);
+        check.same("again(0) of a line in the goal", Maps.line(4095, 2).again(0), 0);
         for (int wrong : new int[] {-1, 2, LOW, HIGH}) {
             check.illegal(s, "again(" + wrong + ")", () -> s.again(wrong));
         }
     }
 
     private static void ranked() {
-        Roadgame g = four();
+        Roadgame g = Maps.four();
         check.same("ranked(0), all 2", g.ranked(0), 15);
         check.same("ranked(1), all 2", g.ranked(1), 0);
         g.rank(3, 1);
@@ -525,7 +464,7 @@ public final class PromiseTest {
         check.same("ranked(0), each round has rank 1", g.ranked(0), 0);
         g.rank(2, 0);
         check.same("ranked(0), 0 is less than 1", g.ranked(0), 15);
-        Roadgame s = stuck();
+        Roadgame s = Maps.stuck();
         check.same("ranked(0) stuck", s.ranked(0), 6);
         check.same("ranked(1) stuck", s.ranked(1), 1);
         Roadgame loops = new Roadgame();
@@ -535,9 +474,9 @@ public final class PromiseTest {
         loops.rank(1, 1);
         check.same("ranked(0) of loops", loops.ranked(0), 5);
         check.same("ranked(1) of loops", loops.ranked(1), 2);
-        check.same("ranked(0) of a line of rank 0", line(0, 0).ranked(0), 0);
-        check.same("ranked(0) of a line of rank 2", line(0, 2).ranked(0), 0);
-        Roadgame up = line(0, 1);
+        check.same("ranked(0) of a line of rank 0", Maps.line(0, 0).ranked(0), 0);
+        check.same("ranked(0) of a line of rank 2", Maps.line(0, 2).ranked(0), 0);
+        Roadgame up = Maps.line(0, 1);
         up.give(11, 1);
         check.same("ranked(0) of a line to where the other one is stuck", up.ranked(0), 4095);
         up.way(11, 11);
@@ -548,7 +487,7 @@ public final class PromiseTest {
     }
 
     private static void winner() {
-        Roadgame g = four();
+        Roadgame g = Maps.four();
         g.rank(0, 1);
         g.rank(3, 1);
         int[][] due = {{0, 0, 0, 0}, {0, 1, 0, 1}, {0, 0, 0, 0}, {0, 0, 0, 0}, {1, 1, 1, 1}};
@@ -557,16 +496,16 @@ public final class PromiseTest {
                 check.same("winner(" + game + ", " + p + ")", g.winner(game, p), due[game][p]);
             }
         }
-        Roadgame s = stuck();
+        Roadgame s = Maps.stuck();
         int[] lost = {1, 0, 0};
         for (int game = 0; game <= 4; game++) {
             for (int p = 0; p < 3; p++) {
                 check.same("winner(" + game + ", " + p + ") stuck", s.winner(game, p), lost[p]);
             }
         }
-        check.same("winner(0, 1) in the lure", lure().winner(0, 1), 0);
-        check.same("winner(2, 1) in the lure", lure().winner(2, 1), 1);
-        check.same("winner(3, 1) in the lure", lure().winner(3, 1), 0);
+        check.same("winner(0, 1) in the lure", Maps.lure().winner(0, 1), 0);
+        check.same("winner(2, 1) in the lure", Maps.lure().winner(2, 1), 1);
+        check.same("winner(3, 1) in the lure", Maps.lure().winner(3, 1), 0);
         for (int wrong : new int[] {-1, 4, LOW, HIGH}) {
             check.outside(g, "winner(0, " + wrong + ")", () -> g.winner(0, wrong));
         }
@@ -576,14 +515,14 @@ public final class PromiseTest {
     }
 
     private static void rounds() {
-        Roadgame g = four();
+        Roadgame g = Maps.four();
         int[][] due = {{2, 3, 1, 0}, {-1, 1, -1, 0}};
         for (int side = 0; side <= 1; side++) {
             for (int p = 0; p < 4; p++) {
                 check.same("rounds(" + side + ", " + p + ")", g.rounds(side, p), due[side][p]);
             }
         }
-        Roadgame s = stuck();
+        Roadgame s = Maps.stuck();
         check.same("rounds(0, 0) stuck", s.rounds(0, 0), -1);
         check.same("rounds(0, 1) stuck", s.rounds(0, 1), 0);
         check.same("rounds(0, 2) stuck", s.rounds(0, 2), 1);
@@ -611,14 +550,14 @@ public final class PromiseTest {
     }
 
     private static void againRounds() {
-        Roadgame g = four();
+        Roadgame g = Maps.four();
         int[][] due = {{2, 3, 1, 0}, {-1, -1, -1, -1}};
         for (int side = 0; side <= 1; side++) {
             for (int p = 0; p < 4; p++) {
                 check.same("againRounds(" + side + ", " + p + ")", g.againRounds(side, p), due[side][p]);
             }
         }
-        Roadgame far = lure();
+        Roadgame far = Maps.lure();
         far.lose(0, 2);
         far.way(0, 3);
         far.way(3, 2);
@@ -629,12 +568,12 @@ public final class PromiseTest {
         // 0 goes to 1 and 3, 3 to 2, 2 to 0; 1 stays at itself.
         check.same("againRounds(0, 0), far", far.againRounds(0, 0), 2);
         check.same("againRounds(0, 1), far", far.againRounds(0, 1), -1);
-        Roadgame l = lure();
+        Roadgame l = Maps.lure();
         check.same("rounds(0, 1) in the lure", l.rounds(0, 1), 0);
         check.same("againRounds(0, 1) in the lure", l.againRounds(0, 1), -1);
         check.same("againRounds(0, 0) past the lure", l.againRounds(0, 0), 1);
         check.same("againRounds(0, 2) past the lure", l.againRounds(0, 2), 0);
-        Roadgame s = stuck();
+        Roadgame s = Maps.stuck();
         check.same("againRounds(0, 1) stuck", s.againRounds(0, 1), 0);
         check.same("againRounds(0, 2) stuck", s.againRounds(0, 2), 1);
         for (int wrong : new int[] {-1, 4, LOW, HIGH}) {
@@ -646,15 +585,15 @@ public final class PromiseTest {
     }
 
     private static void falls() {
-        Roadgame g = four();
+        Roadgame g = Maps.four();
         check.same("falls(0)", g.falls(0), 0);
         check.same("falls(1)", g.falls(1), 2);
-        check.same("falls(0) of the lure", lure().falls(0), 2);
+        check.same("falls(0) of the lure", Maps.lure().falls(0), 2);
         // Left after each: 0 1 2, then 2 alone (from 0 it goes to 1, too), then none.
-        check.same("falls(1) of the lure", lure().falls(1), 3);
-        check.same("falls(0) stuck", stuck().falls(0), 1);
-        check.same("falls(1) stuck", stuck().falls(1), 1);
-        Roadgame line = line(4095, 2);
+        check.same("falls(1) of the lure", Maps.lure().falls(1), 3);
+        check.same("falls(0) stuck", Maps.stuck().falls(0), 1);
+        check.same("falls(1) stuck", Maps.stuck().falls(1), 1);
+        Roadgame line = Maps.line(4095, 2);
         check.same("falls(0) of a line in the goal", line.falls(0), 12);
         check.same("falls(1) of a line in the goal", line.falls(1), 0);
         for (int wrong : new int[] {-1, 2, LOW, HIGH}) {
@@ -663,7 +602,7 @@ public final class PromiseTest {
     }
 
     private static void choice() {
-        Roadgame g = four();
+        Roadgame g = Maps.four();
         int[][][] due = {
             {{2, -1, 3, -1}, {-1, 3, -1, -1}},
             {{2, -1, 0, -1}, {-1, -1, -1, -1}},
@@ -676,7 +615,7 @@ public final class PromiseTest {
                 }
             }
         }
-        Roadgame l = lure();
+        Roadgame l = Maps.lure();
         check.same("choice(0, 0, 0) to the lure", l.choice(0, 0, 0), 1);
         check.same("choice(0, 0, 2) in the goal", l.choice(0, 0, 2), -1);
         check.same("choice(2, 0, 0) past the lure", l.choice(2, 0, 0), 2);
@@ -700,14 +639,14 @@ public final class PromiseTest {
     }
 
     private static void isSure() {
-        Roadgame[] games = {new Roadgame(), four(), stuck(), lure(), thirty()};
+        Roadgame[] games = {new Roadgame(), Maps.four(), Maps.stuck(), Maps.lure(), Maps.thirty()};
         for (Roadgame g : games) {
             for (int game = 0; game <= 2; game++) {
                 check.holds("isSure(" + game + ", 0)", g.isSure(game, 0));
                 check.holds("isSure(" + game + ", 1)", g.isSure(game, 1));
             }
         }
-        Roadgame g = four();
+        Roadgame g = Maps.four();
         for (int wrong : new int[] {-1, 3, LOW, HIGH}) {
             check.illegal(g, "isSure(" + wrong + ", 0)", () -> g.isSure(wrong, 0));
         }
@@ -717,14 +656,14 @@ public final class PromiseTest {
     }
 
     private static void play() {
-        Roadgame g = four();
+        Roadgame g = Maps.four();
         check.same("play(0, 1)", g.play(0, 1), "1-0-2-3-2");
         check.same("play(1, 1)", g.play(1, 1), "1-3-2-0-2");
         check.same("play(0, 0)", g.play(0, 0), "0-2-3-2");
-        check.same("play(0, 2) stuck", stuck().play(0, 2), "2-1");
-        check.same("play(1, 2) stuck", stuck().play(1, 2), "2-1");
-        check.same("play(0, 0) stuck", stuck().play(0, 0), "0");
-        check.same("play(0, 3) at itself", lure().play(0, 3), "3-3");
+        check.same("play(0, 2) stuck", Maps.stuck().play(0, 2), "2-1");
+        check.same("play(1, 2) stuck", Maps.stuck().play(1, 2), "2-1");
+        check.same("play(0, 0) stuck", Maps.stuck().play(0, 0), "0");
+        check.same("play(0, 3) at itself", Maps.lure().play(0, 3), "3-3");
         Roadgame line = new Roadgame();
         line.places(12);
         line.circle(1);
@@ -738,14 +677,14 @@ public final class PromiseTest {
     }
 
     private static void choices() {
-        Roadgame g = four();
+        Roadgame g = Maps.four();
         check.same("choices(0)", g.choices(0), 4);
         check.same("choices(1)", g.choices(1), 2);
         check.same("choices(0) of none", new Roadgame().choices(0), 1);
         check.same("choices(1) of none", new Roadgame().choices(1), 1);
-        check.same("choices(0) stuck", stuck().choices(0), 2);
-        check.same("choices(0) of thirty", thirty().choices(0), 15625);
-        check.same("choices(1) of thirty", thirty().choices(1), 1);
+        check.same("choices(0) stuck", Maps.stuck().choices(0), 2);
+        check.same("choices(0) of thirty", Maps.thirty().choices(0), 15625);
+        check.same("choices(1) of thirty", Maps.thirty().choices(1), 1);
         Roadgame most = new Roadgame();
         most.places(10);
         most.circle(0);
@@ -758,7 +697,7 @@ public final class PromiseTest {
     }
 
     private static void tried() {
-        Roadgame g = four();
+        Roadgame g = Maps.four();
         int[][] due = {{15, 10}, {5, 0}, {15, 0}, {15, 0}};
         for (int game = 0; game <= 3; game++) {
             check.same("tried(" + game + ", 0)", g.tried(game, 0), due[game][0]);
@@ -788,14 +727,14 @@ public final class PromiseTest {
     }
 
     private static void withGoal() {
-        Roadgame g = four();
+        Roadgame g = Maps.four();
         long before = g.digest();
         check.same("withGoal(0, 1, 0)", g.withGoal(0, 1, 0), 15);
         check.same("withGoal(0, 1, 3)", g.withGoal(0, 1, 3), 10);
         check.same("withGoal(1, 1, 2)", g.withGoal(1, 1, 2), 15);
         check.same("withGoal(1, 1, 0)", g.withGoal(1, 1, 0), 15);
         check.same("withGoal(1, 1, 1)", g.withGoal(1, 1, 1), 0);
-        Roadgame l = lure();
+        Roadgame l = Maps.lure();
         check.same("withGoal(1, 0, 3)", l.withGoal(1, 0, 3), 15);
         check.same("withGoal(0, 0, 3)", l.withGoal(0, 0, 3), 15);
         check.same("withGoal(1, 0, 0)", l.withGoal(1, 0, 0), 5);
@@ -810,7 +749,7 @@ public final class PromiseTest {
     }
 
     private static void withWay() {
-        Roadgame s = stuck();
+        Roadgame s = Maps.stuck();
         long before = s.digest();
         check.same("withWay(0, 0, 0, 2)", s.withWay(0, 0, 0, 2), 7);
         check.same("withWay(1, 1, 0, 2)", s.withWay(1, 1, 0, 2), 0);
@@ -821,7 +760,7 @@ public final class PromiseTest {
         check.same("withWay(3, 1, 1, 0)", s.withWay(3, 1, 1, 0), 7);
         check.same("withWay(2, 0, 2, 1) there already", s.withWay(2, 0, 2, 1), 6);
         check.same("withWay changes nothing", s.digest(), before);
-        Roadgame g = four();
+        Roadgame g = Maps.four();
         g.rank(0, 1);
         g.rank(3, 1);
         check.same("withWay(3, 1, 3, 3)", g.withWay(3, 1, 3, 3), 15);
@@ -876,7 +815,7 @@ public final class PromiseTest {
     }
 
     private static void knock() {
-        Roadgame g = four();
+        Roadgame g = Maps.four();
         String before = Check.stateOf(g);
         int done = g.house(0);
         check.same("knock()", g.knock(), 1);
@@ -887,7 +826,7 @@ public final class PromiseTest {
     }
 
     private static void isSound() {
-        Roadgame[] games = {new Roadgame(), four(), stuck(), lure(), thirty()};
+        Roadgame[] games = {new Roadgame(), Maps.four(), Maps.stuck(), Maps.lure(), Maps.thirty()};
         for (Roadgame g : games) {
             check.holds("isSound()", g.isSound());
             g.change();
@@ -909,7 +848,7 @@ public final class PromiseTest {
             due = due * 31 + v;
         }
         check.same("digest() of two", two.digest(), due);
-        Roadgame[] games = {four(), stuck(), lure(), thirty()};
+        Roadgame[] games = {Maps.four(), Maps.stuck(), Maps.lure(), Maps.thirty()};
         for (Roadgame g : games) {
             check.same("digest()", g.digest(), digestByCalls(g));
             g.knock();
@@ -943,7 +882,7 @@ public final class PromiseTest {
     }
 
     private static void exceptionOrder() {
-        Roadgame g = thirty();
+        Roadgame g = Maps.thirty();
         check.outside(g, "give(6, 2)", () -> g.give(6, 2));
         check.outside(g, "rank(-1, 3)", () -> g.rank(-1, 3));
         check.outside(g, "ofPlace(6, 5)", () -> g.ofPlace(6, 5));
