@@ -8,11 +8,13 @@ import java.util.TreeSet;
  * each of its choices and looking in the map that is left for a path on which it loses. That fixed
  * choices do as well as others in these games is well known.
  */
-final class Model {
+class Model {
     static final int COMING = 0;
     static final int KEEPING = 1;
     static final int AGAIN = 2;
     static final int RANKED = 3;
+    /** Past so many choices of a side it takes too long to try them all. */
+    private static final int MOST_CHOICES = 300;
 
     int n;
     boolean[][] way;
@@ -191,6 +193,14 @@ final class Model {
     }
 
     // ---- games
+
+    boolean triesTooMany() {
+        return choices(0) > MOST_CHOICES || choices(1) > MOST_CHOICES;
+    }
+
+    boolean mayBeReckoned() {
+        return !triesTooMany();
+    }
 
     /** The places from which one of the side's choices wins each play. */
     boolean[] won(int game, int s) {

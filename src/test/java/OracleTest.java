@@ -1,31 +1,35 @@
 import java.util.Random;
 
-/** Runs of calls by fixed seeds, each answer held against the one of Model. */
+/** Runs of calls by fixed seeds, each answer held against the one of Model, or of Solver where Model would take too long. */
 public final class OracleTest {
     private static final Check check = new Check();
-    /** Past so many choices of a side Model takes too long; then only the acts are held against it. */
-    private static final int MOST_CHOICES = 300;
+    private static int dense = 0;
 
     public static void main(String[] args) {
         for (int seed = 0; seed < 60; seed++) {
-            mixedRun(seed);
+            mixedRun(seed, new Model());
+            mixedRun(100 + seed, new Solver());
         }
         for (int seed = 0; seed < 500; seed++) {
             smallMap(seed);
         }
         for (int seed = 0; seed < 60; seed++) {
-            largeMap(seed);
+            largeMap(seed, 12 + seed % 15, new Model());
+        }
+        for (int seed = 100; seed < 300; seed++) {
+            largeMap(seed, 15 + seed % 31, new Solver());
         }
         for (int seed = 0; seed < 10000; seed += 97) {
-            strewnMap(seed);
+            strewnMap(seed, 2 + seed % 9, new Model());
+            strewnMap(seed, 11 + seed % 2, new Solver());
         }
+        check.holds("maps past the most choices were met: " + dense, dense >= 100);
         check.end("OracleTest");
     }
 
-    private static void mixedRun(int seed) {
+    private static void mixedRun(int seed, Model model) {
         Random random = new Random(seed);
         Roadgame game = new Roadgame();
-        Model model = new Model();
         for (int k = 0; k < 60; k++) {
             act(random, game, model, "run " + seed + " act " + k);
             compareMap(game, model, "run " + seed + " act " + k);
@@ -98,7 +102,7 @@ public final class OracleTest {
                 break;
             default: {
                 int of = random.nextInt(3);
-                if (mayBeReckoned(model)) {
+                if (model.mayBeReckoned()) {
                     check.same(where + " follow", game.follow(of), model.follow(of));
                 }
                 break;
@@ -115,19 +119,16 @@ public final class OracleTest {
         compareGames(game, model, "small " + seed);
     }
 
-    private static void largeMap(int seed) {
+    private static void largeMap(int seed, int ways, Model model) {
         Random random = new Random(5000 + seed);
         Roadgame game = new Roadgame();
-        Model model = new Model();
-        fill(random, game, model, 9 + random.nextInt(4), 12 + random.nextInt(15));
+        fill(random, game, model, 9 + random.nextInt(4), ways);
         compareMap(game, model, "large " + seed);
         compareGames(game, model, "large " + seed);
     }
 
-    private static void strewnMap(int seed) {
+    private static void strewnMap(int seed, int many, Model model) {
         Roadgame game = new Roadgame();
-        Model model = new Model();
-        int many = 2 + seed % 9;
         game.places(many);
         model.places(many);
         check.same("strewn " + seed, game.strew(seed), model.strew(seed));
@@ -158,10 +159,6 @@ public final class OracleTest {
             game.way(from, to);
             model.way(from, to);
         }
-    }
-
-    private static boolean mayBeReckoned(Model model) {
-        return model.choices(0) <= MOST_CHOICES && model.choices(1) <= MOST_CHOICES;
     }
 
     private static void compareMap(Roadgame game, Model model, String where) {
@@ -200,9 +197,10 @@ public final class OracleTest {
     }
 
     private static void compareGames(Roadgame game, Model model, String where) {
-        if (!mayBeReckoned(model)) {
+        if (!model.mayBeReckoned()) {
             return;
         }
+        dense += model.triesTooMany() ? 1 : 0;
         for (int side = 0; side <= 1; side++) {
             String of = where + " side " + side;
             int[] won = new int[4];
